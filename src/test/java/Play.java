@@ -1,0 +1,70 @@
+/** A registry with the hand that delivers its messages. */
+final class Play {
+    static final int ASK = 0;
+    static final int VOTE = 1;
+    static final int APPEND = 2;
+    static final int ACCEPT = 3;
+    static final int DENIAL = 4;
+    static final int SNAPSHOT = 5;
+
+    final RaftRegistry x = new RaftRegistry();
+    private int seen = 0;
+
+    /** Delivers what was sent since the last time, and what comes by that. */
+    Play deliverAll() {
+        return deliverAmong(0, 1, 2, 3, 4);
+    }
+
+    /** As deliverAll, but what goes to other nodes than these is lost. */
+    Play deliverAmong(int... nodes) {
+        while (seen < x.messages()) {
+            int m = seen++;
+            for (int n : nodes) {
+                if (x.message(m, 2) == n) {
+                    x.deliver(m);
+                }
+            }
+        }
+        return this;
+    }
+
+    Play loseAll() {
+        seen = x.messages();
+        return this;
+    }
+
+    /** NODE n becomes leader, and all hear it. */
+    Play elect(int n) {
+        x.expire(n);
+        return deliverAll();
+    }
+
+    /** All nodes that are up apply what leader n has. */
+    Play settle(int n) {
+        x.beat(n);
+        deliverAll();
+        x.beat(n);
+        return deliverAll();
+    }
+
+    /** Proposes to leader 0 a command with all its numbers; its index. */
+    int command(int kind, int a, int b, int c, int d, int e, int f) {
+        x.more(c, d, e, f);
+        return x.propose(0, kind, a, b);
+    }
+
+    /** As command, and all apply it; its result. */
+    int run(int kind, int a, int b, int c, int d, int e, int f) {
+        int index = command(kind, a, b, c, d, e, f);
+        settle(0);
+        return x.result(0, index);
+    }
+
+    int run(int kind, int a, int b) {
+        return run(kind, a, b, 0, 0, 0, 0);
+    }
+
+    int lastMessage() {
+        return x.messages() - 1;
+    }
+}
