@@ -1,3 +1,6 @@
+import java.lang.reflect.Field;
+import java.lang.reflect.Method;
+
 /** The nodes, their disks and their messages: promises 1 to 3, 6 to 10, 15 to 17, 19 and 20. */
 public final class RaftPromisesTest {
     private static final Class<IndexOutOfBoundsException> INDEX = IndexOutOfBoundsException.class;
@@ -19,7 +22,9 @@ public final class RaftPromisesTest {
         replacing();
         committing();
         oldTermStays();
+        matchBeginsAnew();
         passingOverBase();
+        watching();
         Due.end();
     }
 
@@ -425,6 +430,61 @@ public final class RaftPromisesTest {
         q.x.deliver(q.lastMessage());
         Due.is("two have it: all before it is committed too", 6, q.x.node(1, 6));
         Due.is("and applied", 4, q.x.node(1, 11));
+    }
+
+    /** NODE 1 had ENTRIES 2 to 4 of NODE 0's TERM 1, that NODE 0 itself lost since: they count nothing in TERM 3. */
+    private static void matchBeginsAnew() {
+        Play p = new Play().elect(0);
+        for (int i = 0; i < 3; i++) {
+            p.x.propose(0, 1, i, i);
+        }
+        p.x.beat(0);
+        p.deliverAmong(0, 1);
+        p.x.expire(2);
+        p.deliverAmong(0, 2, 3, 4); // TERM 2, ENTRY 2 of it
+        node(p.x, 0, 1, 2, -1, 0, 0, 2, 1, 2);
+        p.x.expire(0);
+        p.deliverAmong(3, 4);
+        int votes = p.lastMessage() - 1;
+        p.x.deliver(votes);
+        p.x.deliver(votes + 1);
+        node(p.x, 0, 1, 3, 0, 2, 0, 3, 1, 3);
+        message(p.x, p.lastMessage() - 3, Play.APPEND, 0, 1, 3, 2, 2, 1, 1);
+        int toThree = p.lastMessage() - 1;
+        p.x.deliver(toThree);
+        p.x.deliver(p.lastMessage());
+        Due.is("NODE 3 alone has ENTRY 3", 1, p.x.node(0, 6));
+        p.x.deliver(toThree - 2); // NODE 1 has another ENTRY 2
+        message(p.x, p.lastMessage(), Play.DENIAL, 1, 0, 3, 1);
+        p.x.deliver(p.lastMessage());
+        message(p.x, p.lastMessage(), Play.APPEND, 0, 1, 3, 1, 1, 2, 1);
+        p.x.deliver(p.lastMessage());
+        p.x.deliver(p.lastMessage());
+        Due.is("now NODE 1 has it, too", 3, p.x.node(0, 6));
+    }
+
+    /** check is always 0, so only its inside tells that it would see harm. */
+    private static void watching() {
+        try {
+            Class<?> inside = null;
+            for (Class<?> c : RaftRegistry.class.getDeclaredClasses()) {
+                inside = c.getSimpleName().equals("Witness") ? c : inside;
+            }
+            RaftRegistry x = new RaftRegistry();
+            Field field = RaftRegistry.class.getDeclaredField("witness");
+            field.setAccessible(true);
+            Object witness = field.get(x);
+            Method see = inside.getDeclaredMethod("seeLeader", int.class, int.class);
+            see.setAccessible(true);
+            see.invoke(witness, 1, 2);
+            see.invoke(witness, 1, 2);
+            see.invoke(witness, 2, 3);
+            Due.is("one leader of each TERM", 0, x.check());
+            see.invoke(witness, 1, 3);
+            Due.is("two leaders of a TERM", 1, x.check());
+        } catch (ReflectiveOperationException e) {
+            Due.wrong("the witness can't be looked at: " + e);
+        }
     }
 
     private static void passingOverBase() {

@@ -1,11 +1,13 @@
 import java.util.ArrayList;
+import java.util.HashMap;
 import java.util.List;
+import java.util.Map;
 import java.util.Random;
 import java.util.function.Function;
 
 /** Runs of calls by chance (the same each time), every answer compared with the model's. */
 public final class RandomRunsTest {
-    private static final int RUNS = 600;
+    private static final int RUNS = 800;
     private static final int CALLS = 512;
     private static final int[] VALUES = {0, 1, 2, 5, 77, -1, -5, Integer.MAX_VALUE, Integer.MIN_VALUE};
 
@@ -21,18 +23,23 @@ public final class RandomRunsTest {
     private final int losing;
     private final boolean manyEvents;
     private final boolean manySnapshots;
+    private final boolean manyCommands;
     private int fresh = 0;
     private int calls = 0;
     private boolean takenOver = false;
     private boolean beyond400 = false;
     private int leaders = 0;
+    // Promise 20 seen from outside: who led a TERM, and what THE STORE was at a COMMIT.
+    private final Map<Integer, Integer> leaderOf = new HashMap<>();
+    private final Map<Integer, Long> digestAt = new HashMap<>();
 
     private RandomRunsTest(int seed) {
         this.seed = seed;
         chance = new Random(seed);
         manyEvents = seed % 10 == 0;
         manySnapshots = seed % 10 == 1;
-        boolean quiet = manyEvents || manySnapshots;
+        manyCommands = seed % 10 == 2 || seed % 10 == 3;
+        boolean quiet = manyEvents || manySnapshots || manyCommands;
         crashing = quiet ? 0 : chance.nextInt(5);
         electing = quiet ? 0 : 1 + chance.nextInt(4);
         shrinking = manyEvents ? 0 : chance.nextInt(6);
@@ -81,14 +88,15 @@ public final class RandomRunsTest {
 
     private void play() {
         for (int i = 0; calls < CALLS && i < 2 * CALLS && Due.wrongCount() == 0; i++) {
-            if (manyEvents) {
-                stepToManyEvents(i);
+            if (manyEvents || manyCommands) {
+                stepToMuchCommitted(i);
             } else if (manySnapshots) {
                 stepToManySnapshots(i);
             } else {
                 step();
             }
             look();
+            lookForHarm();
         }
         if (Due.wrongCount() == 0) {
             lookAtAll();
@@ -166,14 +174,19 @@ public final class RandomRunsTest {
         }
     }
 
-    /** Nearly every call goes into puts and removals that NODES 0 to 2 commit: only so are there more than 400 EVENTS. */
-    private void stepToManyEvents(int i) {
+    /**
+     * Nearly every call goes into commands that NODES 0 to 2 commit. Only so are there more than 400 EVENTS, by puts and
+     * removals alone; or much happens in THE STORE, by commands of all kinds.
+     */
+    private void stepToMuchCommitted(int i) {
         if (i == 0) {
             same("expire(0)", o -> x.expire(0), o -> model.expire(0), true);
-        } else if (i < 10 || (calls > 240 && fresh < model.messages.size())) {
+        } else if (i < 10 || ((calls > 240 || (manyCommands && chance.nextInt(3) == 0)) && fresh < model.messages.size())) {
             deliverAmong(3);
-        } else if (i == 10 || calls > 240) {
+        } else if (i == 10 || calls > 280 || (calls > 240 && manyEvents)) {
             same("beat(0)", o -> x.beat(0), o -> model.beat(0), true);
+        } else if (manyCommands) {
+            propose();
         } else {
             int kind = i % 50 == 0 ? 2 : 1;
             int a = kind == 2 ? chance.nextInt(2) : i % 50;
@@ -304,7 +317,7 @@ public final class RandomRunsTest {
         if (kind == 1) {
             a = someKey();
             b = someValue();
-            c = chance.nextBoolean() ? 0 : someLease();
+            c = chance.nextInt(3) == 0 ? 0 : someLease();
         } else if (kind == 2) {
             a = someKey();
             b = someKey();
@@ -359,6 +372,20 @@ public final class RandomRunsTest {
         lookAtMessage();
         if (seen) {
             beyond400 |= model.nodes[n].store.compacted > 0 && model.nodes[n].store.events.size() > 390;
+        }
+    }
+
+    private void lookForHarm() {
+        for (int n = 0; n < 5; n++) {
+            if (x.node(n, 0) == 0) {
+                continue;
+            }
+            if (x.node(n, 3) == 2 && leaderOf.computeIfAbsent(x.node(n, 1), t -> -1) != n) {
+                Due.is("seed " + seed + ": leaders of TERM " + x.node(n, 1), -1, leaderOf.put(x.node(n, 1), n));
+            }
+            long digest = x.digest(n);
+            long known = digestAt.computeIfAbsent(x.node(n, 6), c -> digest);
+            Due.is("seed " + seed + ": STORES at COMMIT " + x.node(n, 6), known, digest);
         }
     }
 

@@ -129,6 +129,12 @@ public final class StorePromisesTest {
         Due.is("KEY 6 then", -1 - (64 * 6 + 6), p.x.event(0, 6, 1));
         key(p, 7, 2, 2, 4, 2, 0);
         Due.is("bits", 0, p.x.node(2, 12));
+        p.run(4, 8, 5);
+        p.run(1, 0, 1, 8, 0, 0, 0);
+        p.run(1, 63, 1, 8, 0, 0, 0);
+        Due.is("the first and the last KEY go", 2, p.run(5, 8, 0));
+        key(p, 0, 0, 0, 0, 0, 0);
+        key(p, 63, 0, 0, 0, 0, 0);
         Due.is("renew what is not there", 0, p.run(6, 8, 1));
         Due.is("put with a LEASE that went", -1, p.run(1, 1, 1, 8, 0, 0, 0));
     }
