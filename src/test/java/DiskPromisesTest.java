@@ -29,18 +29,6 @@ public final class DiskPromisesTest {
         Due.end();
     }
 
-    private static void node(RaftRegistry x, int n, int... due) {
-        for (int what = 0; what < due.length; what++) {
-            Due.is("node(" + n + ", " + what + ")", due[what], x.node(n, what));
-        }
-    }
-
-    private static void message(RaftRegistry x, int m, int... due) {
-        for (int what = 0; what < 8; what++) {
-            Due.is("message(" + m + ", " + what + ")", what < due.length ? due[what] : 0, x.message(m, what));
-        }
-    }
-
     private static void crashAndStart() {
         Play p = new Play().elect(0);
         p.run(4, 1, 9);
@@ -50,12 +38,12 @@ public final class DiskPromisesTest {
         long before = p.x.digest(0);
         p.x.propose(0, 7, 0, 0);
         p.x.crash(0);
-        node(p.x, 0, 0, 1, 0, 0, 3, 5, 3, 1, 0, 0, 0, 0, 0, 0);
+        p.node(0, 0, 1, 0, 0, 3, 5, 3, 1, 0, 0, 0, 0, 0, 0);
         Due.is("ENTRIES stay", 1, p.x.entry(0, 5));
         Due.is("BASE, too", 1, p.x.entry(0, 3));
         Due.is("what is before it is gone", -1, p.x.entry(0, 2));
         Due.is("start", 5, p.x.start(0));
-        node(p.x, 0, 1, 1, 0, 0, 3, 5, 3, 1, 2, 0, 0, 1, 1, 1);
+        p.node(0, 1, 1, 0, 0, 3, 5, 3, 1, 2, 0, 0, 1, 1, 1);
         Due.is("the SNAPSHOT's", 55, p.x.key(0, 5, 3));
         Due.is("not what was applied later", 0, p.x.key(0, 6, 0));
         p.loseAll();
@@ -69,13 +57,13 @@ public final class DiskPromisesTest {
         q.x.expire(2);
         q.x.crash(2);
         q.x.start(2);
-        node(q.x, 2, 1, 1, 2, 0);
+        q.node(2, 1, 1, 2, 0);
         q.x.deliver(0);
         Due.is("a VOTE for who was candidate", 0, q.x.deliver(4));
         Due.is("it is follower", 0, q.x.node(2, 3));
         q.x.expire(3);
         Due.is("what it promised it keeps", 1, q.x.deliver(7));
-        message(q.x, q.lastMessage(), Play.VOTE, 2, 3, 1, 0);
+        q.message(q.lastMessage(), Play.VOTE, 2, 3, 1, 0);
     }
 
     private static void crashAndStartRefuse() {
@@ -127,7 +115,7 @@ public final class DiskPromisesTest {
             Due.is("RECORD " + i, 4, x.expire(0));
         }
         Due.is("RECORD 100", 0, x.expire(0));
-        node(x, 0, 0, 100, 0, 0);
+        Play.node(x, 0, 0, 100, 0, 0);
     }
 
     private static void powerAtExpire() {
@@ -135,11 +123,11 @@ public final class DiskPromisesTest {
         x.power(3, 1);
         Due.is("RECORD 0", 4, x.expire(3));
         Due.is("RECORD 1", 0, x.expire(3));
-        node(x, 3, 0, 1, 3, 0);
+        Play.node(x, 3, 0, 1, 3, 0);
         Due.is("messages", 4, x.messages());
         Due.throwing("down", STATE, () -> x.expire(3));
         x.start(3);
-        node(x, 3, 1, 1, 3, 0);
+        Play.node(x, 3, 1, 1, 3, 0);
     }
 
     private static void powerAtAsk() {
@@ -147,19 +135,19 @@ public final class DiskPromisesTest {
         x.expire(0);
         x.power(1, 1);
         Due.is("TERM is written, VOTED not", 0, x.deliver(0));
-        node(x, 1, 0, 1, -1, 0);
+        Play.node(x, 1, 0, 1, -1, 0);
         x.start(1);
         x.power(1, 1);
         Due.is("VOTED alone", 1, x.deliver(0));
-        node(x, 1, 1, 1, 0, 0);
+        Play.node(x, 1, 1, 1, 0, 0);
         Due.is("again: no RECORD", 1, x.deliver(0));
-        node(x, 1, 1, 1, 0, 0);
+        Play.node(x, 1, 1, 1, 0, 0);
         Due.is("the next RECORD", 0, x.expire(1));
-        node(x, 1, 0, 1, 0, 0);
+        Play.node(x, 1, 0, 1, 0, 0);
         x.expire(4);
         x.power(2, 0);
         Due.is("TERM is not written", 0, x.deliver(8));
-        node(x, 2, 0, 0, -1, 0);
+        Play.node(x, 2, 0, 0, -1, 0);
     }
 
     private static void powerAtAppend() {
@@ -172,11 +160,11 @@ public final class DiskPromisesTest {
         int m = p.lastMessage() - 3;
         p.x.power(1, 2);
         Due.is("two ENTRIES of four", 0, p.x.deliver(m));
-        node(p.x, 1, 0, 1, 0, 0, 0, 3, 0, 1);
+        p.node(1, 0, 1, 0, 0, 0, 3, 0, 1);
         Due.is("start", 3, p.x.start(1));
         p.x.power(1, 2);
         Due.is("the other two", 1, p.x.deliver(m));
-        node(p.x, 1, 1, 1, 0, 0, 0, 5, 1, 1);
+        p.node(1, 1, 1, 0, 0, 0, 5, 1, 1);
         Due.is("nothing new: no RECORD", 1, p.x.deliver(m));
         p.x.power(1, 0);
         Due.is("nothing new: no RECORD", 1, p.x.deliver(m));
@@ -194,13 +182,13 @@ public final class DiskPromisesTest {
         int m = p.lastMessage() - 3;
         p.x.power(0, 1);
         Due.is("TERM is written, the ENTRY not", 0, p.x.deliver(m));
-        node(p.x, 0, 0, 2, -1, 0, 0, 3, 0, 1);
+        p.node(0, 0, 2, -1, 0, 0, 3, 0, 1);
         Due.is("what it would take the place of stays", 1, p.x.entry(0, 2));
         Due.is("and what is behind it", 1, p.x.entry(0, 3));
         p.x.start(0);
         p.x.power(0, 1);
         Due.is("one RECORD for all of it", 1, p.x.deliver(m));
-        node(p.x, 0, 1, 2, -1, 0, 0, 2, 2, 2);
+        p.node(0, 1, 2, -1, 0, 0, 2, 2, 2);
     }
 
     private static void powerAtLeading() {
@@ -211,11 +199,11 @@ public final class DiskPromisesTest {
         x.deliver(1);
         x.deliver(4);
         Due.is("its first ENTRY is not written, nothing is sent", 0, x.deliver(5));
-        node(x, 0, 0, 1, 0, 0, 0, 0, 0, 0);
+        Play.node(x, 0, 0, 1, 0, 0, 0, 0, 0, 0);
         Due.is("messages", 6, x.messages());
         x.start(0);
         Due.is("a VOTE for a follower", 0, x.deliver(5));
-        node(x, 0, 1, 1, 0, 0, 0, 0, 0, 0);
+        Play.node(x, 0, 1, 1, 0, 0, 0, 0, 0, 0);
     }
 
     private static void powerAtPropose() {
@@ -225,7 +213,7 @@ public final class DiskPromisesTest {
         Due.throwing("a refused one writes none", ARGUMENT, () -> p.x.propose(0, 9, 0, 0));
         Due.is("a beat writes none", 4, p.x.beat(0));
         Due.is("RECORD 1", 0, p.x.propose(0, 7, 0, 0));
-        node(p.x, 0, 0, 1, 0, 0, 0, 2, 0, 1);
+        p.node(0, 0, 1, 0, 0, 0, 2, 0, 1);
         Due.throwing("down", STATE, () -> p.x.propose(0, 7, 0, 0));
     }
 
@@ -236,7 +224,7 @@ public final class DiskPromisesTest {
         p.run(1, 1, 2);
         p.x.power(3, 0);
         Due.is("BASE as it was", 2, p.x.shrink(3));
-        node(p.x, 3, 0, 1, 0, 0, 2, 3, 2, 1);
+        p.node(3, 0, 1, 0, 0, 2, 3, 2, 1);
         p.x.start(3);
         Due.is("the old SNAPSHOT", 1, p.x.key(3, 1, 3));
     }
@@ -254,7 +242,7 @@ public final class DiskPromisesTest {
         Due.is("BASE", 3, p.x.shrink(0));
         p.x.propose(0, 1, 3, 33);
         p.x.beat(0);
-        message(p.x, p.lastMessage(), Play.SNAPSHOT, 0, 4, 1, 3, 1);
+        p.message(p.lastMessage(), Play.SNAPSHOT, 0, 4, 1, 3, 1);
         return p;
     }
 
@@ -263,7 +251,7 @@ public final class DiskPromisesTest {
         int m = p.lastMessage();
         p.x.power(4, 1);
         Due.is("TERM is written, the SNAPSHOT not", 0, p.x.deliver(m));
-        node(p.x, 4, 0, 1, -1, 0, 0, 0, 0, 0);
+        p.node(4, 0, 1, -1, 0, 0, 0, 0, 0);
         p.x.start(4);
         Due.is("STORE", 0, p.x.node(4, 11));
         p.x.power(4, 1);
@@ -271,7 +259,7 @@ public final class DiskPromisesTest {
         Due.is("again: none", 1, p.x.deliver(m));
         Due.is("up", 1, p.x.node(4, 0));
         Due.is("the next one", 0, p.x.expire(4));
-        node(p.x, 4, 0, 1, -1, 0, 3, 3, 3, 1);
+        p.node(4, 0, 1, -1, 0, 3, 3, 3, 1);
     }
 
     private static void powerIsForgotten() {
@@ -304,7 +292,7 @@ public final class DiskPromisesTest {
         p.x.propose(0, 1, 3, 33);
         long digest = p.x.digest(0);
         Due.is("shrink", 3, p.x.shrink(0));
-        node(p.x, 0, 1, 1, 0, 2, 3, 4, 3, 1, 3, 0, 0, 2, 0, 2);
+        p.node(0, 1, 1, 0, 2, 3, 4, 3, 1, 3, 0, 0, 2, 0, 2);
         Due.is("STORE", digest, p.x.digest(0));
         Due.is("BASE, too", 1, p.x.entry(0, 3));
         Due.is("gone", -1, p.x.entry(0, 2));
@@ -314,7 +302,7 @@ public final class DiskPromisesTest {
         p.settle(0);
         Due.is("it goes on", 33, p.x.key(4, 3, 3));
         Due.is("a follower, too", 4, p.x.shrink(4));
-        node(p.x, 4, 1, 1, 0, 0, 4, 4, 4, 1);
+        p.node(4, 1, 1, 0, 0, 4, 4, 4, 1);
         p.x.crash(4);
         p.x.start(4);
         Due.is("SNAPSHOT", p.x.digest(0), p.x.digest(4));
@@ -328,12 +316,12 @@ public final class DiskPromisesTest {
         Play p = behind();
         int m = p.lastMessage();
         Due.is("taken over", 1, p.x.deliver(m));
-        message(p.x, p.lastMessage(), Play.ACCEPT, 4, 0, 1, 3);
-        node(p.x, 4, 1, 1, -1, 0, 3, 3, 3, 1, 3, 0, 0, 2, 0, 2);
+        p.message(p.lastMessage(), Play.ACCEPT, 4, 0, 1, 3);
+        p.node(4, 1, 1, -1, 0, 3, 3, 3, 1, 3, 0, 0, 2, 0, 2);
         Due.is("KEY", 22, p.x.key(4, 2, 3));
         Due.throwing("RESULTS are not known", java.util.NoSuchElementException.class, () -> p.x.result(4, 3));
         Due.is("the rest is sent", 1, p.x.deliver(p.lastMessage()));
-        message(p.x, p.lastMessage(), Play.APPEND, 0, 4, 1, 3, 1, 1, 3);
+        p.message(p.lastMessage(), Play.APPEND, 0, 4, 1, 3, 1, 1, 3);
         p.x.deliver(p.lastMessage());
         Due.is("LAST", 4, p.x.node(4, 5));
         p.loseAll();
@@ -342,9 +330,9 @@ public final class DiskPromisesTest {
         Due.is("RESULT since", 4, p.x.result(4, 4));
         p.x.crash(4);
         Due.is("start", 4, p.x.start(4));
-        node(p.x, 4, 1, 1, -1, 0, 3, 4, 3, 1, 3);
+        p.node(4, 1, 1, -1, 0, 3, 4, 3, 1, 3);
         Due.is("taken over before, and COMMIT is not below: ACCEPT", 1, p.x.deliver(m));
-        message(p.x, p.lastMessage(), Play.ACCEPT, 4, 0, 1, 3);
+        p.message(p.lastMessage(), Play.ACCEPT, 4, 0, 1, 3);
         Due.is("check", 0, p.x.check());
     }
 
@@ -359,23 +347,23 @@ public final class DiskPromisesTest {
         p.x.propose(0, 1, 3, 33);
         p.x.beat(0);
         int entries = p.lastMessage() - 3;
-        message(p.x, entries, Play.APPEND, 0, 1, 1, 0, 0, 4, 3);
+        p.message(entries, Play.APPEND, 0, 1, 1, 0, 0, 4, 3);
         p.x.shrink(0);
         p.x.beat(0);
         int whole = p.lastMessage() - 3;
-        message(p.x, whole, Play.SNAPSHOT, 0, 1, 1, 3, 1);
+        p.message(whole, Play.SNAPSHOT, 0, 1, 1, 3, 1);
         p.x.deliver(entries);
         p.x.crash(1);
         p.x.start(1);
-        node(p.x, 1, 1, 1, -1, 0, 0, 4, 0, 1);
+        p.node(1, 1, 1, -1, 0, 0, 4, 0, 1);
         Due.is("taken over", 1, p.x.deliver(whole));
-        message(p.x, p.lastMessage(), Play.ACCEPT, 1, 0, 1, 3);
-        node(p.x, 1, 1, 1, -1, 0, 3, 4, 3, 1, 3, 0, 0, 2);
+        p.message(p.lastMessage(), Play.ACCEPT, 1, 0, 1, 3);
+        p.node(1, 1, 1, -1, 0, 3, 4, 3, 1, 3, 0, 0, 2);
         Due.is("the ENTRY behind stays", 1, p.x.entry(1, 4));
         Due.is("what is before BASE goes", -1, p.x.entry(1, 2));
         p.x.crash(1);
         Due.is("the disk has it so", 4, p.x.start(1));
-        node(p.x, 1, 1, 1, -1, 0, 3, 4, 3, 1, 3, 0, 0, 2);
+        p.node(1, 1, 1, -1, 0, 3, 4, 3, 1, 3, 0, 0, 2);
     }
 
     private static void snapshotOfAnotherHistory() {
@@ -393,9 +381,9 @@ public final class DiskPromisesTest {
         Due.is("BASE", 3, p.x.shrink(1));
         p.x.beat(1);
         int m = p.lastMessage() - 3;
-        message(p.x, m, Play.SNAPSHOT, 1, 0, 2, 3, 2);
+        p.message(m, Play.SNAPSHOT, 1, 0, 2, 3, 2);
         Due.is("all ENTRIES go", 1, p.x.deliver(m));
-        node(p.x, 0, 1, 2, -1, 0, 3, 3, 3, 2, 2, 0, 0, 1, 0, 1);
+        p.node(0, 1, 2, -1, 0, 3, 3, 3, 2, 2, 0, 0, 1, 0, 1);
         Due.is("ENTRY 4 is gone", -1, p.x.entry(0, 4));
         Due.is("STORE", p.x.digest(1), p.x.digest(0));
         Due.is("check", 0, p.x.check());
@@ -408,10 +396,10 @@ public final class DiskPromisesTest {
         p.x.deliver(p.lastMessage());
         p.x.deliver(p.lastMessage());
         p.settle(0);
-        node(p.x, 4, 1, 1, -1, 0, 3, 4, 4, 1);
+        p.node(4, 1, 1, -1, 0, 3, 4, 4, 1);
         Due.is("COMMIT is above", 1, p.x.deliver(m));
-        message(p.x, p.lastMessage(), Play.ACCEPT, 4, 0, 1, 4);
-        node(p.x, 4, 1, 1, -1, 0, 3, 4, 4, 1);
+        p.message(p.lastMessage(), Play.ACCEPT, 4, 0, 1, 4);
+        p.node(4, 1, 1, -1, 0, 3, 4, 4, 1);
     }
 
     private static void pastInSnapshot() {
@@ -427,7 +415,7 @@ public final class DiskPromisesTest {
         p.deliverAmong(0, 1, 2, 3);
         p.x.shrink(0);
         p.settle(0);
-        node(p.x, 4, 1, 1, -1, 0, 6, 6, 6, 1, 4, 0, 3, 2, 32, 1);
+        p.node(4, 1, 1, -1, 0, 6, 6, 6, 1, 4, 0, 3, 2, 32, 1);
         Due.is("past at COMPACTED", 11, p.x.past(4, 1, 3));
         Due.is("past", 12, p.x.past(4, 1, 4));
         p.x.crash(4);
@@ -447,10 +435,10 @@ public final class DiskPromisesTest {
         }
         int messages = p.x.messages();
         int sixtieth = p.lastMessage();
-        message(p.x, sixtieth, Play.SNAPSHOT, 0, 4, 1, 3, 1);
+        p.message(sixtieth, Play.SNAPSHOT, 0, 4, 1, 3, 1);
         Due.is("it is lost", 3, p.x.beat(0));
         Due.is("messages", messages + 3, p.x.messages());
-        message(p.x, p.lastMessage(), Play.APPEND, 0, 3, 1, 3, 1, 1, 3);
+        p.message(p.lastMessage(), Play.APPEND, 0, 3, 1, 3, 1, 1, 3);
         Due.is("the 60th can be delivered", 1, p.x.deliver(sixtieth));
         Due.is("BASE", 3, p.x.node(4, 4));
     }

@@ -67,4 +67,26 @@ final class Play {
     int lastMessage() {
         return x.messages() - 1;
     }
+
+    /** What is due of MESSAGE m: type, from, to, term, number, told term, entries, commit; what is left out is 0. */
+    static void message(RaftRegistry x, int m, int... due) {
+        for (int what = 0; what < 8; what++) {
+            Due.is("message(" + m + ", " + what + ")", what < due.length ? due[what] : 0, x.message(m, what));
+        }
+    }
+
+    void message(int m, int... due) {
+        message(x, m, due);
+    }
+
+    /** What is due of NODE n, as far as it is told: up, term, voted, role, base, last, commit, term at last, .. */
+    static void node(RaftRegistry x, int n, int... due) {
+        for (int what = 0; what < due.length; what++) {
+            Due.is("node(" + n + ", " + what + ")", due[what], x.node(n, what));
+        }
+    }
+
+    void node(int n, int... due) {
+        node(x, n, due);
+    }
 }

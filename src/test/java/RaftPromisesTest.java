@@ -1,6 +1,3 @@
-import java.lang.reflect.Field;
-import java.lang.reflect.Method;
-
 /** The nodes, their disks and their messages: promises 1 to 3, 6 to 10, 15 to 17, 19 and 20. */
 public final class RaftPromisesTest {
     private static final Class<IndexOutOfBoundsException> INDEX = IndexOutOfBoundsException.class;
@@ -24,22 +21,7 @@ public final class RaftPromisesTest {
         oldTermStays();
         matchBeginsAnew();
         passingOverBase();
-        watching();
         Due.end();
-    }
-
-    /** MESSAGE m: type, from, to, term, number, told term, entries, commit. */
-    private static void message(RaftRegistry x, int m, int... due) {
-        for (int what = 0; what < 8; what++) {
-            Due.is("message(" + m + ", " + what + ")", what < due.length ? due[what] : 0, x.message(m, what));
-        }
-    }
-
-    /** NODE n: up, term, voted, role, base, last, commit, term at last. */
-    private static void node(RaftRegistry x, int n, int... due) {
-        for (int what = 0; what < due.length; what++) {
-            Due.is("node(" + n + ", " + what + ")", due[what], x.node(n, what));
-        }
     }
 
     private static void readmeExample() {
@@ -63,7 +45,7 @@ public final class RaftPromisesTest {
     private static void newObject() {
         RaftRegistry x = new RaftRegistry();
         for (int n = 0; n < 5; n++) {
-            node(x, n, 1, 0, -1, 0, 0, 0, 0, 0, 1, 0, 0, 0, 0, 0);
+            Play.node(x, n, 1, 0, -1, 0, 0, 0, 0, 0, 1, 0, 0, 0, 0, 0);
             Due.is("entry 0", 0, x.entry(n, 0));
             Due.is("entry 1", -1, x.entry(n, 1));
             for (int k = 0; k < 64; k++) {
@@ -80,23 +62,23 @@ public final class RaftPromisesTest {
     private static void expires() {
         RaftRegistry x = new RaftRegistry();
         Due.is("expire", 4, x.expire(2));
-        node(x, 2, 1, 1, 2, 1, 0, 0, 0, 0);
-        message(x, 0, Play.ASK, 2, 0, 1);
-        message(x, 1, Play.ASK, 2, 1, 1);
-        message(x, 2, Play.ASK, 2, 3, 1);
-        message(x, 3, Play.ASK, 2, 4, 1);
+        Play.node(x, 2, 1, 1, 2, 1, 0, 0, 0, 0);
+        Play.message(x, 0, Play.ASK, 2, 0, 1);
+        Play.message(x, 1, Play.ASK, 2, 1, 1);
+        Play.message(x, 2, Play.ASK, 2, 3, 1);
+        Play.message(x, 3, Play.ASK, 2, 4, 1);
         Due.is("a candidate again", 4, x.expire(2));
-        node(x, 2, 1, 2, 2, 1);
-        message(x, 7, Play.ASK, 2, 4, 2);
+        Play.node(x, 2, 1, 2, 2, 1);
+        Play.message(x, 7, Play.ASK, 2, 4, 2);
         Due.is("messages", 8, x.messages());
         Play p = new Play().elect(0);
         p.command(7, 0, 0, 0, 0, 0, 0);
         p.settle(0);
         p.x.expire(3);
-        message(p.x, p.lastMessage(), Play.ASK, 3, 4, 2, 2, 1);
+        p.message(p.lastMessage(), Play.ASK, 3, 4, 2, 2, 1);
         p.x.shrink(1);
         p.x.expire(1);
-        message(p.x, p.lastMessage(), Play.ASK, 1, 4, 2, 2, 1);
+        p.message(p.lastMessage(), Play.ASK, 1, 4, 2, 2, 1);
     }
 
     private static void expireRefuses() {
@@ -124,14 +106,14 @@ public final class RaftPromisesTest {
         x.expire(0); // 0 to 3
         x.expire(1); // 4 to 7: to 0, 2, 3, 4
         Due.is("ask", 1, x.deliver(1));
-        node(x, 2, 1, 1, 0, 0);
-        message(x, 8, Play.VOTE, 2, 0, 1, 1);
+        Play.node(x, 2, 1, 1, 0, 0);
+        Play.message(x, 8, Play.VOTE, 2, 0, 1, 1);
         Due.is("it voted for another one", 1, x.deliver(5));
-        message(x, 9, Play.VOTE, 2, 1, 1, 0);
+        Play.message(x, 9, Play.VOTE, 2, 1, 1, 0);
         Due.is("asked again", 1, x.deliver(1));
-        message(x, 10, Play.VOTE, 2, 0, 1, 1);
+        Play.message(x, 10, Play.VOTE, 2, 0, 1, 1);
         Due.is("a candidate voted for itself", 1, x.deliver(0));
-        message(x, 11, Play.VOTE, 1, 0, 1, 0);
+        Play.message(x, 11, Play.VOTE, 1, 0, 1, 0);
         Due.is("a VOTE", 0, x.deliver(8));
         Due.is("the same VOTE", 0, x.deliver(8));
         Due.is("its like", 0, x.deliver(10));
@@ -143,7 +125,7 @@ public final class RaftPromisesTest {
         Due.is("a VOTE for a leader", 0, x.deliver(12));
         Due.is("VOTE no to the candidate", 0, x.deliver(9));
         Due.is("an ASK at a leader", 1, x.deliver(4));
-        message(x, x.messages() - 1, Play.VOTE, 0, 1, 1, 0);
+        Play.message(x, x.messages() - 1, Play.VOTE, 0, 1, 1, 0);
         Due.is("check", 0, x.check());
     }
 
@@ -155,15 +137,15 @@ public final class RaftPromisesTest {
         p.x.expire(3);
         int ask = p.lastMessage() - 3;
         Due.is("LAST below: TERM 2 comes, a VOTE no", 1, p.x.deliver(ask));
-        message(p.x, p.lastMessage(), Play.VOTE, 0, 3, 2, 0);
-        node(p.x, 0, 1, 2, -1, 0, 0, 2);
+        p.message(p.lastMessage(), Play.VOTE, 0, 3, 2, 0);
+        p.node(0, 1, 2, -1, 0, 0, 2);
         p.x.deliver(ask + 3);
-        message(p.x, p.lastMessage(), Play.VOTE, 4, 3, 2, 1);
+        p.message(p.lastMessage(), Play.VOTE, 4, 3, 2, 1);
         p.loseAll();
         p.x.expire(1); // TERM 2 as well
         int second = p.lastMessage() - 3;
         Due.is("the same LAST", 1, p.x.deliver(second + 1));
-        message(p.x, p.lastMessage(), Play.VOTE, 2, 1, 2, 1);
+        p.message(p.lastMessage(), Play.VOTE, 2, 1, 2, 1);
         p.x.deliver(second);
         p.deliverAmong(1); // leader of TERM 2 with ENTRY 3 of it, that only NODE 1 has
         Due.is("leader", 2, p.x.node(1, 3));
@@ -171,10 +153,10 @@ public final class RaftPromisesTest {
         p.loseAll();
         p.x.expire(0); // TERM 3 with LAST 2 of TERM 1
         p.x.deliver(p.lastMessage() - 3);
-        message(p.x, p.lastMessage(), Play.VOTE, 1, 0, 3, 0);
+        p.message(p.lastMessage(), Play.VOTE, 1, 0, 3, 0);
         p.x.expire(1); // TERM 4 with LAST 3 of TERM 2
         p.x.deliver(p.lastMessage() - 3);
-        message(p.x, p.lastMessage(), Play.VOTE, 0, 1, 4, 1);
+        p.message(p.lastMessage(), Play.VOTE, 0, 1, 4, 1);
         // A longer LOG of an older TERM is behind a shorter one of a newer TERM.
         Play q = new Play().elect(0);
         q.x.propose(0, 7, 0, 0);
@@ -187,7 +169,7 @@ public final class RaftPromisesTest {
         q.x.expire(0);
         q.x.expire(0);
         q.x.deliver(q.lastMessage() - 3);
-        message(q.x, q.lastMessage(), Play.VOTE, 1, 0, 3, 0);
+        q.message(q.lastMessage(), Play.VOTE, 1, 0, 3, 0);
         Due.is("VOTED none, by the TERM", -1, q.x.node(1, 2));
         Due.is("follower, by the TERM", 0, q.x.node(1, 3));
     }
@@ -197,22 +179,22 @@ public final class RaftPromisesTest {
         p.x.expire(0); // 0 to 3, TERM 1
         p.deliverAmong(0, 1, 2); // 4, 5 VOTES, 6 to 9 APPENDS, then ACCEPTS
         int accept = p.lastMessage();
-        message(p.x, accept, Play.ACCEPT, 2, 0, 1, 1);
+        p.message(accept, Play.ACCEPT, 2, 0, 1, 1);
         p.x.shrink(0);
         p.x.beat(0);
         int snapshot = p.lastMessage();
-        message(p.x, snapshot, Play.SNAPSHOT, 0, 4, 1, 1, 1);
+        p.message(snapshot, Play.SNAPSHOT, 0, 4, 1, 1, 1);
         p.x.expire(4);
         p.x.expire(4);
         Due.is("an old ASK", 1, p.x.deliver(3));
-        message(p.x, p.lastMessage(), Play.VOTE, 4, 0, 2, 0);
+        p.message(p.lastMessage(), Play.VOTE, 4, 0, 2, 0);
         Due.is("an old APPEND", 1, p.x.deliver(9));
-        message(p.x, p.lastMessage(), Play.DENIAL, 4, 0, 2, 0);
+        p.message(p.lastMessage(), Play.DENIAL, 4, 0, 2, 0);
         Due.is("an old SNAPSHOT", 1, p.x.deliver(snapshot));
-        message(p.x, p.lastMessage(), Play.DENIAL, 4, 0, 2, 0);
+        p.message(p.lastMessage(), Play.DENIAL, 4, 0, 2, 0);
         Due.is("still candidate", 1, p.x.node(4, 3));
         Due.is("a DENIAL of a newer TERM", 0, p.x.deliver(p.lastMessage()));
-        node(p.x, 0, 1, 2, -1, 0, 1, 1, 1, 1);
+        p.node(0, 1, 2, -1, 0, 1, 1, 1, 1);
         Due.is("an old VOTE", 0, p.x.deliver(4));
         Due.is("an old ACCEPT", 0, p.x.deliver(accept));
         p.x.crash(3);
@@ -234,14 +216,14 @@ public final class RaftPromisesTest {
         x.deliver(1);
         x.deliver(4);
         Due.is("leader", 4, x.deliver(5));
-        node(x, 3, 1, 1, 3, 2, 0, 1, 0, 1);
+        Play.node(x, 3, 1, 1, 3, 2, 0, 1, 0, 1);
         Due.is("its ENTRY", 1, x.entry(3, 1));
         int[] others = {0, 1, 2, 4};
         for (int i = 0; i < 4; i++) {
-            message(x, 6 + i, Play.APPEND, 3, others[i], 1, 0, 0, 1, 0);
+            Play.message(x, 6 + i, Play.APPEND, 3, others[i], 1, 0, 0, 1, 0);
         }
         Due.is("nobody told of another INDEX: all again", 4, x.beat(3));
-        message(x, 13, Play.APPEND, 3, 4, 1, 0, 0, 1, 0);
+        Play.message(x, 13, Play.APPEND, 3, 4, 1, 0, 0, 1, 0);
     }
 
     private static void appending() {
@@ -252,26 +234,26 @@ public final class RaftPromisesTest {
         p.loseAll();
         p.x.beat(0);
         int m = p.lastMessage() - 3;
-        message(p.x, m, Play.APPEND, 0, 1, 1, 1, 1, 4, 1);
+        p.message(m, Play.APPEND, 0, 1, 1, 1, 1, 4, 1);
         Due.is("append", 1, p.x.deliver(m));
-        message(p.x, p.lastMessage(), Play.ACCEPT, 1, 0, 1, 5);
-        node(p.x, 1, 1, 1, 0, 0, 0, 5, 1, 1);
+        p.message(p.lastMessage(), Play.ACCEPT, 1, 0, 1, 5);
+        p.node(1, 1, 1, 0, 0, 0, 5, 1, 1);
         Due.is("the rest is sent", 1, p.x.deliver(p.lastMessage()));
-        message(p.x, p.lastMessage(), Play.APPEND, 0, 1, 1, 5, 1, 2, 1);
+        p.message(p.lastMessage(), Play.APPEND, 0, 1, 1, 5, 1, 2, 1);
         Due.is("LAST is not yet", 5, p.x.node(1, 5));
         p.x.deliver(p.lastMessage());
-        message(p.x, p.lastMessage(), Play.ACCEPT, 1, 0, 1, 7);
+        p.message(p.lastMessage(), Play.ACCEPT, 1, 0, 1, 7);
         Due.is("again the first: nothing goes", 1, p.x.deliver(m));
-        message(p.x, p.lastMessage(), Play.ACCEPT, 1, 0, 1, 5);
+        p.message(p.lastMessage(), Play.ACCEPT, 1, 0, 1, 5);
         Due.is("LAST", 7, p.x.node(1, 5));
         Due.is("an ACCEPT of less", 1, p.x.deliver(p.lastMessage()));
-        message(p.x, p.lastMessage(), Play.APPEND, 0, 1, 1, 5, 1, 2, 1);
+        p.message(p.lastMessage(), Play.APPEND, 0, 1, 1, 5, 1, 2, 1);
         p.x.deliver(p.lastMessage() - 2);
         Due.is("an ACCEPT of all", 0, p.x.deliver(p.lastMessage() - 2));
         Due.is("MATCH stays", 0, p.x.deliver(p.lastMessage() - 1));
         p.x.propose(0, 7, 0, 0);
         p.x.beat(0);
-        message(p.x, p.lastMessage() - 3, Play.APPEND, 0, 1, 1, 7, 1, 1, 1);
+        p.message(p.lastMessage() - 3, Play.APPEND, 0, 1, 1, 7, 1, 1, 1);
         Due.is("a candidate that gets an APPEND of its TERM", 1, candidateHears());
     }
 
@@ -288,7 +270,7 @@ public final class RaftPromisesTest {
             m++;
         }
         q.x.deliver(m);
-        node(q.x, 4, 1, 1, 4, 0, 0, 1, 0, 1);
+        q.node(4, 1, 1, 4, 0, 0, 1, 0, 1);
         return q.x.node(4, 3) == 0 ? 1 : 0;
     }
 
@@ -306,26 +288,26 @@ public final class RaftPromisesTest {
         Due.is("LAST", 7, p.x.node(1, 5));
         p.x.beat(1);
         int m = p.lastMessage();
-        message(p.x, m, Play.APPEND, 1, 4, 2, 6, 1, 1, 7);
+        p.message(m, Play.APPEND, 1, 4, 2, 6, 1, 1, 7);
         Due.is("PREVIOUS above LAST", 1, p.x.deliver(m));
         int denial = p.lastMessage();
-        message(p.x, denial, Play.DENIAL, 4, 1, 2, 0);
+        p.message(denial, Play.DENIAL, 4, 1, 2, 0);
         Due.is("NEXT goes back", 1, p.x.deliver(denial));
-        message(p.x, p.lastMessage(), Play.APPEND, 1, 4, 2, 0, 0, 4, 7);
+        p.message(p.lastMessage(), Play.APPEND, 1, 4, 2, 0, 0, 4, 7);
         Due.is("append", 1, p.x.deliver(p.lastMessage()));
-        message(p.x, p.lastMessage(), Play.ACCEPT, 4, 1, 2, 4);
+        p.message(p.lastMessage(), Play.ACCEPT, 4, 1, 2, 4);
         Due.is("COMMIT not above the last ENTRY of it", 4, p.x.node(4, 6));
         Due.is("accept", 1, p.x.deliver(p.lastMessage()));
-        message(p.x, p.lastMessage(), Play.APPEND, 1, 4, 2, 4, 1, 3, 7);
+        p.message(p.lastMessage(), Play.APPEND, 1, 4, 2, 4, 1, 3, 7);
         Due.is("the old DENIAL again", 1, p.x.deliver(denial));
-        message(p.x, p.lastMessage(), Play.APPEND, 1, 4, 2, 4, 1, 3, 7);
+        p.message(p.lastMessage(), Play.APPEND, 1, 4, 2, 4, 1, 3, 7);
         p.x.deliver(p.lastMessage());
         Due.is("COMMIT", 7, p.x.node(4, 6));
         p.x.deliver(p.lastMessage());
         Due.is("the old DENIAL once more: it sends, without ENTRIES", 1, p.x.deliver(denial));
-        message(p.x, p.lastMessage(), Play.APPEND, 1, 4, 2, 7, 2, 0, 7);
+        p.message(p.lastMessage(), Play.APPEND, 1, 4, 2, 7, 2, 0, 7);
         Due.is("without ENTRIES", 1, p.x.deliver(p.lastMessage()));
-        message(p.x, p.lastMessage(), Play.ACCEPT, 4, 1, 2, 7);
+        p.message(p.lastMessage(), Play.ACCEPT, 4, 1, 2, 7);
         Due.is("the same STORE", p.x.digest(1), p.x.digest(4));
     }
 
@@ -337,8 +319,8 @@ public final class RaftPromisesTest {
         p.loseAll();
         p.x.expire(1);
         p.deliverAmong(1, 2, 3);
-        node(p.x, 1, 1, 2, 1, 2, 0, 2, 2, 2);
-        node(p.x, 0, 1, 1, 0, 2, 0, 3, 1, 1);
+        p.node(1, 1, 2, 1, 2, 0, 2, 2, 2);
+        p.node(0, 1, 1, 0, 2, 0, 3, 1, 1);
         return p;
     }
 
@@ -353,14 +335,14 @@ public final class RaftPromisesTest {
                 m = i;
             }
         }
-        message(p.x, m, Play.APPEND, 2, 0, 3, 2, 2, 1, 0);
+        p.message(m, Play.APPEND, 2, 0, 3, 2, 2, 1, 0);
         Due.is("another TERM at PREVIOUS", 1, p.x.deliver(m));
-        message(p.x, p.lastMessage(), Play.DENIAL, 0, 2, 3, 1);
-        node(p.x, 0, 1, 3, -1, 0, 0, 3, 1, 1);
+        p.message(p.lastMessage(), Play.DENIAL, 0, 2, 3, 1);
+        p.node(0, 1, 3, -1, 0, 0, 3, 1, 1);
         Due.is("it goes back", 1, p.x.deliver(p.lastMessage()));
-        message(p.x, p.lastMessage(), Play.APPEND, 2, 0, 3, 1, 1, 2, 3);
+        p.message(p.lastMessage(), Play.APPEND, 2, 0, 3, 1, 1, 2, 3);
         Due.is("it takes their place", 1, p.x.deliver(p.lastMessage()));
-        node(p.x, 0, 1, 3, -1, 0, 0, 3, 3, 3);
+        p.node(0, 1, 3, -1, 0, 0, 3, 3, 3);
         Due.is("ENTRY 2", 2, p.x.entry(0, 2));
         Due.is("ENTRY 3", 3, p.x.entry(0, 3));
         Due.is("no KEY came", 0, p.x.node(0, 11));
@@ -368,7 +350,7 @@ public final class RaftPromisesTest {
         Play q = parted();
         q.x.beat(1);
         Due.is("one ENTRY in the place of two", 1, q.x.deliver(q.lastMessage() - 3));
-        node(q.x, 0, 1, 2, -1, 0, 0, 2, 2, 2);
+        q.node(0, 1, 2, -1, 0, 0, 2, 2, 2);
         Due.is("ENTRY 3 is gone", -1, q.x.entry(0, 3));
     }
 
@@ -415,9 +397,9 @@ public final class RaftPromisesTest {
         for (int n = 1; n <= 2; n++) {
             q.x.deliver(append + n); // a DENIAL with 1
             q.x.deliver(q.lastMessage()); // ENTRIES 2 to 5
-            message(q.x, q.lastMessage(), Play.APPEND, 1, n + 1, 2, 1, 1, 4, 1);
+            q.message(q.lastMessage(), Play.APPEND, 1, n + 1, 2, 1, 1, 4, 1);
             q.x.deliver(q.lastMessage());
-            message(q.x, q.lastMessage(), Play.ACCEPT, n + 1, 1, 2, 5);
+            q.message(q.lastMessage(), Play.ACCEPT, n + 1, 1, 2, 5);
             q.x.deliver(q.lastMessage());
             Due.is("two have ENTRY 5 of TERM 1", 1, q.x.node(1, 6));
         }
@@ -442,49 +424,25 @@ public final class RaftPromisesTest {
         p.deliverAmong(0, 1);
         p.x.expire(2);
         p.deliverAmong(0, 2, 3, 4); // TERM 2, ENTRY 2 of it
-        node(p.x, 0, 1, 2, -1, 0, 0, 2, 1, 2);
+        p.node(0, 1, 2, -1, 0, 0, 2, 1, 2);
         p.x.expire(0);
         p.deliverAmong(3, 4);
         int votes = p.lastMessage() - 1;
         p.x.deliver(votes);
         p.x.deliver(votes + 1);
-        node(p.x, 0, 1, 3, 0, 2, 0, 3, 1, 3);
-        message(p.x, p.lastMessage() - 3, Play.APPEND, 0, 1, 3, 2, 2, 1, 1);
+        p.node(0, 1, 3, 0, 2, 0, 3, 1, 3);
+        p.message(p.lastMessage() - 3, Play.APPEND, 0, 1, 3, 2, 2, 1, 1);
         int toThree = p.lastMessage() - 1;
         p.x.deliver(toThree);
         p.x.deliver(p.lastMessage());
         Due.is("NODE 3 alone has ENTRY 3", 1, p.x.node(0, 6));
         p.x.deliver(toThree - 2); // NODE 1 has another ENTRY 2
-        message(p.x, p.lastMessage(), Play.DENIAL, 1, 0, 3, 1);
+        p.message(p.lastMessage(), Play.DENIAL, 1, 0, 3, 1);
         p.x.deliver(p.lastMessage());
-        message(p.x, p.lastMessage(), Play.APPEND, 0, 1, 3, 1, 1, 2, 1);
+        p.message(p.lastMessage(), Play.APPEND, 0, 1, 3, 1, 1, 2, 1);
         p.x.deliver(p.lastMessage());
         p.x.deliver(p.lastMessage());
         Due.is("now NODE 1 has it, too", 3, p.x.node(0, 6));
-    }
-
-    /** check is always 0, so only its inside tells that it would see harm. */
-    private static void watching() {
-        try {
-            Class<?> inside = null;
-            for (Class<?> c : RaftRegistry.class.getDeclaredClasses()) {
-                inside = c.getSimpleName().equals("Witness") ? c : inside;
-            }
-            RaftRegistry x = new RaftRegistry();
-            Field field = RaftRegistry.class.getDeclaredField("witness");
-            field.setAccessible(true);
-            Object witness = field.get(x);
-            Method see = inside.getDeclaredMethod("seeLeader", int.class, int.class);
-            see.setAccessible(true);
-            see.invoke(witness, 1, 2);
-            see.invoke(witness, 1, 2);
-            see.invoke(witness, 2, 3);
-            Due.is("one leader of each TERM", 0, x.check());
-            see.invoke(witness, 1, 3);
-            Due.is("two leaders of a TERM", 1, x.check());
-        } catch (ReflectiveOperationException e) {
-            Due.wrong("the witness can't be looked at: " + e);
-        }
     }
 
     private static void passingOverBase() {
@@ -499,7 +457,7 @@ public final class RaftPromisesTest {
         p.settle(0);
         Due.is("BASE", 7, p.x.shrink(1));
         Due.is("all of it is passed over", 1, p.x.deliver(old));
-        message(p.x, p.lastMessage(), Play.ACCEPT, 1, 0, 1, 7);
+        p.message(p.lastMessage(), Play.ACCEPT, 1, 0, 1, 7);
         Play q = new Play().elect(0);
         q.x.propose(0, 1, 1, 1);
         q.settle(0); // COMMIT 2
@@ -509,14 +467,14 @@ public final class RaftPromisesTest {
         }
         q.x.crash(1);
         q.x.start(1);
-        node(q.x, 1, 1, 1, 0, 0, 2, 2, 2, 1);
+        q.node(1, 1, 1, 0, 0, 2, 2, 2, 1);
         q.x.expire(2);
         q.deliverAmong(2, 3, 4); // NODE 2 leads TERM 2, ENTRY 3
         q.loseAll();
         q.x.beat(2);
         q.x.deliver(q.lastMessage() - 2);
-        message(q.x, q.lastMessage(), Play.ACCEPT, 1, 2, 2, 3);
-        node(q.x, 1, 1, 2, -1, 0, 2, 3, 3, 2);
+        q.message(q.lastMessage(), Play.ACCEPT, 1, 2, 2, 3);
+        q.node(1, 1, 2, -1, 0, 2, 3, 3, 2);
         partlyPassedOver();
     }
 
@@ -532,16 +490,16 @@ public final class RaftPromisesTest {
         p.x.propose(0, 1, 3, 3);
         p.x.beat(0);
         int wide = p.lastMessage() - 3; // to NODE 1: PREVIOUS 1, ENTRIES 2 to 4, COMMIT 2
-        message(p.x, wide, Play.APPEND, 0, 1, 1, 1, 1, 3, 2);
+        p.message(wide, Play.APPEND, 0, 1, 1, 1, 1, 3, 2);
         p.x.shrink(0);
         p.x.beat(0);
         int whole = p.lastMessage() - 3;
-        message(p.x, whole, Play.SNAPSHOT, 0, 1, 1, 2, 1);
+        p.message(whole, Play.SNAPSHOT, 0, 1, 1, 2, 1);
         Due.is("the SNAPSHOT", 1, p.x.deliver(whole));
-        node(p.x, 1, 1, 1, 0, 0, 2, 2, 2, 1);
+        p.node(1, 1, 1, 0, 0, 2, 2, 2, 1);
         p.x.power(1, 2);
         Due.is("ENTRY 2 is passed over, 3 and 4 come", 1, p.x.deliver(wide));
-        message(p.x, p.lastMessage(), Play.ACCEPT, 1, 0, 1, 4);
-        node(p.x, 1, 1, 1, 0, 0, 2, 4, 2, 1);
+        p.message(p.lastMessage(), Play.ACCEPT, 1, 0, 1, 4);
+        p.node(1, 1, 1, 0, 0, 2, 4, 2, 1);
     }
 }
