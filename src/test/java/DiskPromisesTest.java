@@ -63,7 +63,7 @@ public final class DiskPromisesTest {
         Due.is("it is follower", 0, q.x.node(2, 3));
         q.x.expire(3);
         Due.is("what it promised it keeps", 1, q.x.deliver(7));
-        q.message(q.lastMessage(), Play.VOTE, 2, 3, 1, 0);
+        q.message(q.lastMessage(), Run.VOTE, 2, 3, 1, 0);
     }
 
     private static void crashAndStartRefuse() {
@@ -242,7 +242,7 @@ public final class DiskPromisesTest {
         Due.is("BASE", 3, p.x.shrink(0));
         p.x.propose(0, 1, 3, 33);
         p.x.beat(0);
-        p.message(p.lastMessage(), Play.SNAPSHOT, 0, 4, 1, 3, 1);
+        p.message(p.lastMessage(), Run.SNAPSHOT, 0, 4, 1, 3, 1);
         return p;
     }
 
@@ -316,12 +316,12 @@ public final class DiskPromisesTest {
         Play p = behind();
         int m = p.lastMessage();
         Due.is("taken over", 1, p.x.deliver(m));
-        p.message(p.lastMessage(), Play.ACCEPT, 4, 0, 1, 3);
+        p.message(p.lastMessage(), Run.ACCEPT, 4, 0, 1, 3);
         p.node(4, 1, 1, -1, 0, 3, 3, 3, 1, 3, 0, 0, 2, 0, 2);
         Due.is("KEY", 22, p.x.key(4, 2, 3));
         Due.throwing("RESULTS are not known", java.util.NoSuchElementException.class, () -> p.x.result(4, 3));
         Due.is("the rest is sent", 1, p.x.deliver(p.lastMessage()));
-        p.message(p.lastMessage(), Play.APPEND, 0, 4, 1, 3, 1, 1, 3);
+        p.message(p.lastMessage(), Run.APPEND, 0, 4, 1, 3, 1, 1, 3);
         p.x.deliver(p.lastMessage());
         Due.is("LAST", 4, p.x.node(4, 5));
         p.loseAll();
@@ -332,7 +332,7 @@ public final class DiskPromisesTest {
         Due.is("start", 4, p.x.start(4));
         p.node(4, 1, 1, -1, 0, 3, 4, 3, 1, 3);
         Due.is("taken over before, and COMMIT is not below: ACCEPT", 1, p.x.deliver(m));
-        p.message(p.lastMessage(), Play.ACCEPT, 4, 0, 1, 3);
+        p.message(p.lastMessage(), Run.ACCEPT, 4, 0, 1, 3);
         Due.is("check", 0, p.x.check());
     }
 
@@ -347,17 +347,17 @@ public final class DiskPromisesTest {
         p.x.propose(0, 1, 3, 33);
         p.x.beat(0);
         int entries = p.lastMessage() - 3;
-        p.message(entries, Play.APPEND, 0, 1, 1, 0, 0, 4, 3);
+        p.message(entries, Run.APPEND, 0, 1, 1, 0, 0, 4, 3);
         p.x.shrink(0);
         p.x.beat(0);
         int whole = p.lastMessage() - 3;
-        p.message(whole, Play.SNAPSHOT, 0, 1, 1, 3, 1);
+        p.message(whole, Run.SNAPSHOT, 0, 1, 1, 3, 1);
         p.x.deliver(entries);
         p.x.crash(1);
         p.x.start(1);
         p.node(1, 1, 1, -1, 0, 0, 4, 0, 1);
         Due.is("taken over", 1, p.x.deliver(whole));
-        p.message(p.lastMessage(), Play.ACCEPT, 1, 0, 1, 3);
+        p.message(p.lastMessage(), Run.ACCEPT, 1, 0, 1, 3);
         p.node(1, 1, 1, -1, 0, 3, 4, 3, 1, 3, 0, 0, 2);
         Due.is("the ENTRY behind stays", 1, p.x.entry(1, 4));
         Due.is("what is before BASE goes", -1, p.x.entry(1, 2));
@@ -381,7 +381,7 @@ public final class DiskPromisesTest {
         Due.is("BASE", 3, p.x.shrink(1));
         p.x.beat(1);
         int m = p.lastMessage() - 3;
-        p.message(m, Play.SNAPSHOT, 1, 0, 2, 3, 2);
+        p.message(m, Run.SNAPSHOT, 1, 0, 2, 3, 2);
         Due.is("all ENTRIES go", 1, p.x.deliver(m));
         p.node(0, 1, 2, -1, 0, 3, 3, 3, 2, 2, 0, 0, 1, 0, 1);
         Due.is("ENTRY 4 is gone", -1, p.x.entry(0, 4));
@@ -398,7 +398,7 @@ public final class DiskPromisesTest {
         p.settle(0);
         p.node(4, 1, 1, -1, 0, 3, 4, 4, 1);
         Due.is("COMMIT is above", 1, p.x.deliver(m));
-        p.message(p.lastMessage(), Play.ACCEPT, 4, 0, 1, 4);
+        p.message(p.lastMessage(), Run.ACCEPT, 4, 0, 1, 4);
         p.node(4, 1, 1, -1, 0, 3, 4, 4, 1);
     }
 
@@ -435,10 +435,10 @@ public final class DiskPromisesTest {
         }
         int messages = p.x.messages();
         int sixtieth = p.lastMessage();
-        p.message(sixtieth, Play.SNAPSHOT, 0, 4, 1, 3, 1);
+        p.message(sixtieth, Run.SNAPSHOT, 0, 4, 1, 3, 1);
         Due.is("it is lost", 3, p.x.beat(0));
         Due.is("messages", messages + 3, p.x.messages());
-        p.message(p.lastMessage(), Play.APPEND, 0, 3, 1, 3, 1, 1, 3);
+        p.message(p.lastMessage(), Run.APPEND, 0, 3, 1, 3, 1, 1, 3);
         Due.is("the 60th can be delivered", 1, p.x.deliver(sixtieth));
         Due.is("BASE", 3, p.x.node(4, 4));
     }

@@ -7,8 +7,31 @@ final class Due {
     private static final int MOST_TOLD = 40;
     private static int compared = 0;
     private static final List<String> WRONG = new ArrayList<>();
+    private static String sentence = "";
 
     private Due() {
+    }
+
+    /** A test of one sentence of the document; what is wrong in it is told with the sentence. */
+    static void sentence(String words, Runnable test) {
+        sentence = "'" + words + "': ";
+        int before = compared;
+        try {
+            test.run();
+        } catch (RuntimeException e) {
+            wrong("the test came to its end by " + e);
+        }
+        if (compared == before) {
+            wrong("nothing was compared");
+        }
+        sentence = "";
+    }
+
+    static void same(String what, String due, String got) {
+        compared++;
+        if (!due.equals(got)) {
+            wrong(what);
+        }
     }
 
     static void is(String what, long due, long got) {
@@ -38,9 +61,9 @@ final class Due {
     }
 
     static void wrong(String text) {
-        WRONG.add(text);
+        WRONG.add(sentence + text);
         if (WRONG.size() <= MOST_TOLD) {
-            System.out.println(text);
+            System.out.println(sentence + text);
         }
     }
 

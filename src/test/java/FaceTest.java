@@ -9,12 +9,20 @@ import java.util.TreeSet;
 
 /** The class has the document's face, and nothing else that can be seen from outside. */
 public final class FaceTest {
+    private static final String INDEX = " IndexOutOfBoundsException";
+    private static final String ARGUMENT = " IllegalArgumentException";
+    private static final String STATE = " IllegalStateException";
+    private static final String ELEMENT = " NoSuchElementException";
     private static final Set<String> FACE = new TreeSet<>(Arrays.asList(
-            "int expire(int)", "int deliver(int)", "void more(int,int,int,int)", "int propose(int,int,int,int)",
-            "int beat(int)", "int shrink(int)", "void crash(int)", "int start(int)", "void power(int,int)",
-            "int result(int,int)", "int key(int,int,int)", "int past(int,int,int)", "long event(int,int,int)",
-            "int message(int,int)", "int node(int,int)", "int entry(int,int)", "long digest(int)", "int messages()",
-            "int check()"));
+            "int expire(int)" + INDEX + STATE, "int deliver(int)" + INDEX, "void more(int,int,int,int)",
+            "int propose(int,int,int,int)" + INDEX + ARGUMENT + STATE, "int beat(int)" + INDEX + STATE,
+            "int shrink(int)" + INDEX + STATE, "void crash(int)" + INDEX + STATE, "int start(int)" + INDEX + STATE,
+            "void power(int,int)" + INDEX + ARGUMENT, "int result(int,int)" + INDEX + ELEMENT,
+            "int key(int,int,int)" + INDEX + STATE + ARGUMENT,
+            "int past(int,int,int)" + INDEX + STATE + ARGUMENT + ELEMENT,
+            "long event(int,int,int)" + INDEX + STATE + ARGUMENT, "int message(int,int)" + INDEX + ARGUMENT,
+            "int node(int,int)" + INDEX + ARGUMENT, "int entry(int,int)" + INDEX, "long digest(int)" + INDEX + STATE,
+            "int messages()", "int check()"));
 
     public static void main(String[] args) {
         Class<?> c = RaftRegistry.class;
@@ -59,6 +67,10 @@ public final class FaceTest {
         for (int i = 0; i < m.getParameterCount(); i++) {
             text.append(i == 0 ? "" : ",").append(m.getParameterTypes()[i].getName());
         }
-        return text.append(')').toString();
+        text.append(')');
+        for (Class<?> e : m.getExceptionTypes()) {
+            text.append(' ').append(e.getSimpleName());
+        }
+        return text.toString();
     }
 }

@@ -1,27 +1,26 @@
 /** A registry with the hand that delivers its messages. */
 final class Play {
-    static final int ASK = 0;
-    static final int VOTE = 1;
-    static final int APPEND = 2;
-    static final int ACCEPT = 3;
-    static final int DENIAL = 4;
-    static final int SNAPSHOT = 5;
-
     final RaftRegistry x = new RaftRegistry();
     private int seen = 0;
 
     /** Delivers what was sent since the last time, and what comes by that. */
     Play deliverAll() {
-        return deliverAmong(0, 1, 2, 3, 4);
+        int there = x.messages();
+        while (seen < there) {
+            there += x.deliver(seen++);
+        }
+        return this;
     }
 
     /** As deliverAll, but what goes to other nodes than these is lost. */
     Play deliverAmong(int... nodes) {
-        while (seen < x.messages()) {
+        int there = x.messages();
+        while (seen < there) {
             int m = seen++;
+            int to = x.message(m, 2);
             for (int n : nodes) {
-                if (x.message(m, 2) == n) {
-                    x.deliver(m);
+                if (to == n) {
+                    there += x.deliver(m);
                 }
             }
         }

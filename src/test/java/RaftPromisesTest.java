@@ -63,22 +63,22 @@ public final class RaftPromisesTest {
         RaftRegistry x = new RaftRegistry();
         Due.is("expire", 4, x.expire(2));
         Play.node(x, 2, 1, 1, 2, 1, 0, 0, 0, 0);
-        Play.message(x, 0, Play.ASK, 2, 0, 1);
-        Play.message(x, 1, Play.ASK, 2, 1, 1);
-        Play.message(x, 2, Play.ASK, 2, 3, 1);
-        Play.message(x, 3, Play.ASK, 2, 4, 1);
+        Play.message(x, 0, Run.ASK, 2, 0, 1);
+        Play.message(x, 1, Run.ASK, 2, 1, 1);
+        Play.message(x, 2, Run.ASK, 2, 3, 1);
+        Play.message(x, 3, Run.ASK, 2, 4, 1);
         Due.is("a candidate again", 4, x.expire(2));
         Play.node(x, 2, 1, 2, 2, 1);
-        Play.message(x, 7, Play.ASK, 2, 4, 2);
+        Play.message(x, 7, Run.ASK, 2, 4, 2);
         Due.is("messages", 8, x.messages());
         Play p = new Play().elect(0);
         p.command(7, 0, 0, 0, 0, 0, 0);
         p.settle(0);
         p.x.expire(3);
-        p.message(p.lastMessage(), Play.ASK, 3, 4, 2, 2, 1);
+        p.message(p.lastMessage(), Run.ASK, 3, 4, 2, 2, 1);
         p.x.shrink(1);
         p.x.expire(1);
-        p.message(p.lastMessage(), Play.ASK, 1, 4, 2, 2, 1);
+        p.message(p.lastMessage(), Run.ASK, 1, 4, 2, 2, 1);
     }
 
     private static void expireRefuses() {
@@ -107,13 +107,13 @@ public final class RaftPromisesTest {
         x.expire(1); // 4 to 7: to 0, 2, 3, 4
         Due.is("ask", 1, x.deliver(1));
         Play.node(x, 2, 1, 1, 0, 0);
-        Play.message(x, 8, Play.VOTE, 2, 0, 1, 1);
+        Play.message(x, 8, Run.VOTE, 2, 0, 1, 1);
         Due.is("it voted for another one", 1, x.deliver(5));
-        Play.message(x, 9, Play.VOTE, 2, 1, 1, 0);
+        Play.message(x, 9, Run.VOTE, 2, 1, 1, 0);
         Due.is("asked again", 1, x.deliver(1));
-        Play.message(x, 10, Play.VOTE, 2, 0, 1, 1);
+        Play.message(x, 10, Run.VOTE, 2, 0, 1, 1);
         Due.is("a candidate voted for itself", 1, x.deliver(0));
-        Play.message(x, 11, Play.VOTE, 1, 0, 1, 0);
+        Play.message(x, 11, Run.VOTE, 1, 0, 1, 0);
         Due.is("a VOTE", 0, x.deliver(8));
         Due.is("the same VOTE", 0, x.deliver(8));
         Due.is("its like", 0, x.deliver(10));
@@ -125,7 +125,7 @@ public final class RaftPromisesTest {
         Due.is("a VOTE for a leader", 0, x.deliver(12));
         Due.is("VOTE no to the candidate", 0, x.deliver(9));
         Due.is("an ASK at a leader", 1, x.deliver(4));
-        Play.message(x, x.messages() - 1, Play.VOTE, 0, 1, 1, 0);
+        Play.message(x, x.messages() - 1, Run.VOTE, 0, 1, 1, 0);
         Due.is("check", 0, x.check());
     }
 
@@ -137,15 +137,15 @@ public final class RaftPromisesTest {
         p.x.expire(3);
         int ask = p.lastMessage() - 3;
         Due.is("LAST below: TERM 2 comes, a VOTE no", 1, p.x.deliver(ask));
-        p.message(p.lastMessage(), Play.VOTE, 0, 3, 2, 0);
+        p.message(p.lastMessage(), Run.VOTE, 0, 3, 2, 0);
         p.node(0, 1, 2, -1, 0, 0, 2);
         p.x.deliver(ask + 3);
-        p.message(p.lastMessage(), Play.VOTE, 4, 3, 2, 1);
+        p.message(p.lastMessage(), Run.VOTE, 4, 3, 2, 1);
         p.loseAll();
         p.x.expire(1); // TERM 2 as well
         int second = p.lastMessage() - 3;
         Due.is("the same LAST", 1, p.x.deliver(second + 1));
-        p.message(p.lastMessage(), Play.VOTE, 2, 1, 2, 1);
+        p.message(p.lastMessage(), Run.VOTE, 2, 1, 2, 1);
         p.x.deliver(second);
         p.deliverAmong(1); // leader of TERM 2 with ENTRY 3 of it, that only NODE 1 has
         Due.is("leader", 2, p.x.node(1, 3));
@@ -153,10 +153,10 @@ public final class RaftPromisesTest {
         p.loseAll();
         p.x.expire(0); // TERM 3 with LAST 2 of TERM 1
         p.x.deliver(p.lastMessage() - 3);
-        p.message(p.lastMessage(), Play.VOTE, 1, 0, 3, 0);
+        p.message(p.lastMessage(), Run.VOTE, 1, 0, 3, 0);
         p.x.expire(1); // TERM 4 with LAST 3 of TERM 2
         p.x.deliver(p.lastMessage() - 3);
-        p.message(p.lastMessage(), Play.VOTE, 0, 1, 4, 1);
+        p.message(p.lastMessage(), Run.VOTE, 0, 1, 4, 1);
         // A longer LOG of an older TERM is behind a shorter one of a newer TERM.
         Play q = new Play().elect(0);
         q.x.propose(0, 7, 0, 0);
@@ -169,7 +169,7 @@ public final class RaftPromisesTest {
         q.x.expire(0);
         q.x.expire(0);
         q.x.deliver(q.lastMessage() - 3);
-        q.message(q.lastMessage(), Play.VOTE, 1, 0, 3, 0);
+        q.message(q.lastMessage(), Run.VOTE, 1, 0, 3, 0);
         Due.is("VOTED none, by the TERM", -1, q.x.node(1, 2));
         Due.is("follower, by the TERM", 0, q.x.node(1, 3));
     }
@@ -179,19 +179,19 @@ public final class RaftPromisesTest {
         p.x.expire(0); // 0 to 3, TERM 1
         p.deliverAmong(0, 1, 2); // 4, 5 VOTES, 6 to 9 APPENDS, then ACCEPTS
         int accept = p.lastMessage();
-        p.message(accept, Play.ACCEPT, 2, 0, 1, 1);
+        p.message(accept, Run.ACCEPT, 2, 0, 1, 1);
         p.x.shrink(0);
         p.x.beat(0);
         int snapshot = p.lastMessage();
-        p.message(snapshot, Play.SNAPSHOT, 0, 4, 1, 1, 1);
+        p.message(snapshot, Run.SNAPSHOT, 0, 4, 1, 1, 1);
         p.x.expire(4);
         p.x.expire(4);
         Due.is("an old ASK", 1, p.x.deliver(3));
-        p.message(p.lastMessage(), Play.VOTE, 4, 0, 2, 0);
+        p.message(p.lastMessage(), Run.VOTE, 4, 0, 2, 0);
         Due.is("an old APPEND", 1, p.x.deliver(9));
-        p.message(p.lastMessage(), Play.DENIAL, 4, 0, 2, 0);
+        p.message(p.lastMessage(), Run.DENIAL, 4, 0, 2, 0);
         Due.is("an old SNAPSHOT", 1, p.x.deliver(snapshot));
-        p.message(p.lastMessage(), Play.DENIAL, 4, 0, 2, 0);
+        p.message(p.lastMessage(), Run.DENIAL, 4, 0, 2, 0);
         Due.is("still candidate", 1, p.x.node(4, 3));
         Due.is("a DENIAL of a newer TERM", 0, p.x.deliver(p.lastMessage()));
         p.node(0, 1, 2, -1, 0, 1, 1, 1, 1);
@@ -220,10 +220,10 @@ public final class RaftPromisesTest {
         Due.is("its ENTRY", 1, x.entry(3, 1));
         int[] others = {0, 1, 2, 4};
         for (int i = 0; i < 4; i++) {
-            Play.message(x, 6 + i, Play.APPEND, 3, others[i], 1, 0, 0, 1, 0);
+            Play.message(x, 6 + i, Run.APPEND, 3, others[i], 1, 0, 0, 1, 0);
         }
         Due.is("nobody told of another INDEX: all again", 4, x.beat(3));
-        Play.message(x, 13, Play.APPEND, 3, 4, 1, 0, 0, 1, 0);
+        Play.message(x, 13, Run.APPEND, 3, 4, 1, 0, 0, 1, 0);
     }
 
     private static void appending() {
@@ -234,26 +234,26 @@ public final class RaftPromisesTest {
         p.loseAll();
         p.x.beat(0);
         int m = p.lastMessage() - 3;
-        p.message(m, Play.APPEND, 0, 1, 1, 1, 1, 4, 1);
+        p.message(m, Run.APPEND, 0, 1, 1, 1, 1, 4, 1);
         Due.is("append", 1, p.x.deliver(m));
-        p.message(p.lastMessage(), Play.ACCEPT, 1, 0, 1, 5);
+        p.message(p.lastMessage(), Run.ACCEPT, 1, 0, 1, 5);
         p.node(1, 1, 1, 0, 0, 0, 5, 1, 1);
         Due.is("the rest is sent", 1, p.x.deliver(p.lastMessage()));
-        p.message(p.lastMessage(), Play.APPEND, 0, 1, 1, 5, 1, 2, 1);
+        p.message(p.lastMessage(), Run.APPEND, 0, 1, 1, 5, 1, 2, 1);
         Due.is("LAST is not yet", 5, p.x.node(1, 5));
         p.x.deliver(p.lastMessage());
-        p.message(p.lastMessage(), Play.ACCEPT, 1, 0, 1, 7);
+        p.message(p.lastMessage(), Run.ACCEPT, 1, 0, 1, 7);
         Due.is("again the first: nothing goes", 1, p.x.deliver(m));
-        p.message(p.lastMessage(), Play.ACCEPT, 1, 0, 1, 5);
+        p.message(p.lastMessage(), Run.ACCEPT, 1, 0, 1, 5);
         Due.is("LAST", 7, p.x.node(1, 5));
         Due.is("an ACCEPT of less", 1, p.x.deliver(p.lastMessage()));
-        p.message(p.lastMessage(), Play.APPEND, 0, 1, 1, 5, 1, 2, 1);
+        p.message(p.lastMessage(), Run.APPEND, 0, 1, 1, 5, 1, 2, 1);
         p.x.deliver(p.lastMessage() - 2);
         Due.is("an ACCEPT of all", 0, p.x.deliver(p.lastMessage() - 2));
         Due.is("MATCH stays", 0, p.x.deliver(p.lastMessage() - 1));
         p.x.propose(0, 7, 0, 0);
         p.x.beat(0);
-        p.message(p.lastMessage() - 3, Play.APPEND, 0, 1, 1, 7, 1, 1, 1);
+        p.message(p.lastMessage() - 3, Run.APPEND, 0, 1, 1, 7, 1, 1, 1);
         Due.is("a candidate that gets an APPEND of its TERM", 1, candidateHears());
     }
 
@@ -266,7 +266,7 @@ public final class RaftPromisesTest {
         q.deliverAmong(0, 1, 2);
         Due.is("candidate", 1, q.x.node(4, 3));
         int m = 0;
-        while (q.x.message(m, 0) != Play.APPEND || q.x.message(m, 2) != 4) {
+        while (q.x.message(m, 0) != Run.APPEND || q.x.message(m, 2) != 4) {
             m++;
         }
         q.x.deliver(m);
@@ -288,26 +288,26 @@ public final class RaftPromisesTest {
         Due.is("LAST", 7, p.x.node(1, 5));
         p.x.beat(1);
         int m = p.lastMessage();
-        p.message(m, Play.APPEND, 1, 4, 2, 6, 1, 1, 7);
+        p.message(m, Run.APPEND, 1, 4, 2, 6, 1, 1, 7);
         Due.is("PREVIOUS above LAST", 1, p.x.deliver(m));
         int denial = p.lastMessage();
-        p.message(denial, Play.DENIAL, 4, 1, 2, 0);
+        p.message(denial, Run.DENIAL, 4, 1, 2, 0);
         Due.is("NEXT goes back", 1, p.x.deliver(denial));
-        p.message(p.lastMessage(), Play.APPEND, 1, 4, 2, 0, 0, 4, 7);
+        p.message(p.lastMessage(), Run.APPEND, 1, 4, 2, 0, 0, 4, 7);
         Due.is("append", 1, p.x.deliver(p.lastMessage()));
-        p.message(p.lastMessage(), Play.ACCEPT, 4, 1, 2, 4);
+        p.message(p.lastMessage(), Run.ACCEPT, 4, 1, 2, 4);
         Due.is("COMMIT not above the last ENTRY of it", 4, p.x.node(4, 6));
         Due.is("accept", 1, p.x.deliver(p.lastMessage()));
-        p.message(p.lastMessage(), Play.APPEND, 1, 4, 2, 4, 1, 3, 7);
+        p.message(p.lastMessage(), Run.APPEND, 1, 4, 2, 4, 1, 3, 7);
         Due.is("the old DENIAL again", 1, p.x.deliver(denial));
-        p.message(p.lastMessage(), Play.APPEND, 1, 4, 2, 4, 1, 3, 7);
+        p.message(p.lastMessage(), Run.APPEND, 1, 4, 2, 4, 1, 3, 7);
         p.x.deliver(p.lastMessage());
         Due.is("COMMIT", 7, p.x.node(4, 6));
         p.x.deliver(p.lastMessage());
         Due.is("the old DENIAL once more: it sends, without ENTRIES", 1, p.x.deliver(denial));
-        p.message(p.lastMessage(), Play.APPEND, 1, 4, 2, 7, 2, 0, 7);
+        p.message(p.lastMessage(), Run.APPEND, 1, 4, 2, 7, 2, 0, 7);
         Due.is("without ENTRIES", 1, p.x.deliver(p.lastMessage()));
-        p.message(p.lastMessage(), Play.ACCEPT, 4, 1, 2, 7);
+        p.message(p.lastMessage(), Run.ACCEPT, 4, 1, 2, 7);
         Due.is("the same STORE", p.x.digest(1), p.x.digest(4));
     }
 
@@ -331,16 +331,16 @@ public final class RaftPromisesTest {
         Due.is("leader", 2, p.x.node(2, 3));
         int m = 0;
         for (int i = 0; i < p.x.messages(); i++) {
-            if (p.x.message(i, 0) == Play.APPEND && p.x.message(i, 1) == 2 && p.x.message(i, 2) == 0) {
+            if (p.x.message(i, 0) == Run.APPEND && p.x.message(i, 1) == 2 && p.x.message(i, 2) == 0) {
                 m = i;
             }
         }
-        p.message(m, Play.APPEND, 2, 0, 3, 2, 2, 1, 0);
+        p.message(m, Run.APPEND, 2, 0, 3, 2, 2, 1, 0);
         Due.is("another TERM at PREVIOUS", 1, p.x.deliver(m));
-        p.message(p.lastMessage(), Play.DENIAL, 0, 2, 3, 1);
+        p.message(p.lastMessage(), Run.DENIAL, 0, 2, 3, 1);
         p.node(0, 1, 3, -1, 0, 0, 3, 1, 1);
         Due.is("it goes back", 1, p.x.deliver(p.lastMessage()));
-        p.message(p.lastMessage(), Play.APPEND, 2, 0, 3, 1, 1, 2, 3);
+        p.message(p.lastMessage(), Run.APPEND, 2, 0, 3, 1, 1, 2, 3);
         Due.is("it takes their place", 1, p.x.deliver(p.lastMessage()));
         p.node(0, 1, 3, -1, 0, 0, 3, 3, 3);
         Due.is("ENTRY 2", 2, p.x.entry(0, 2));
@@ -397,9 +397,9 @@ public final class RaftPromisesTest {
         for (int n = 1; n <= 2; n++) {
             q.x.deliver(append + n); // a DENIAL with 1
             q.x.deliver(q.lastMessage()); // ENTRIES 2 to 5
-            q.message(q.lastMessage(), Play.APPEND, 1, n + 1, 2, 1, 1, 4, 1);
+            q.message(q.lastMessage(), Run.APPEND, 1, n + 1, 2, 1, 1, 4, 1);
             q.x.deliver(q.lastMessage());
-            q.message(q.lastMessage(), Play.ACCEPT, n + 1, 1, 2, 5);
+            q.message(q.lastMessage(), Run.ACCEPT, n + 1, 1, 2, 5);
             q.x.deliver(q.lastMessage());
             Due.is("two have ENTRY 5 of TERM 1", 1, q.x.node(1, 6));
         }
@@ -431,15 +431,15 @@ public final class RaftPromisesTest {
         p.x.deliver(votes);
         p.x.deliver(votes + 1);
         p.node(0, 1, 3, 0, 2, 0, 3, 1, 3);
-        p.message(p.lastMessage() - 3, Play.APPEND, 0, 1, 3, 2, 2, 1, 1);
+        p.message(p.lastMessage() - 3, Run.APPEND, 0, 1, 3, 2, 2, 1, 1);
         int toThree = p.lastMessage() - 1;
         p.x.deliver(toThree);
         p.x.deliver(p.lastMessage());
         Due.is("NODE 3 alone has ENTRY 3", 1, p.x.node(0, 6));
         p.x.deliver(toThree - 2); // NODE 1 has another ENTRY 2
-        p.message(p.lastMessage(), Play.DENIAL, 1, 0, 3, 1);
+        p.message(p.lastMessage(), Run.DENIAL, 1, 0, 3, 1);
         p.x.deliver(p.lastMessage());
-        p.message(p.lastMessage(), Play.APPEND, 0, 1, 3, 1, 1, 2, 1);
+        p.message(p.lastMessage(), Run.APPEND, 0, 1, 3, 1, 1, 2, 1);
         p.x.deliver(p.lastMessage());
         p.x.deliver(p.lastMessage());
         Due.is("now NODE 1 has it, too", 3, p.x.node(0, 6));
@@ -457,7 +457,7 @@ public final class RaftPromisesTest {
         p.settle(0);
         Due.is("BASE", 7, p.x.shrink(1));
         Due.is("all of it is passed over", 1, p.x.deliver(old));
-        p.message(p.lastMessage(), Play.ACCEPT, 1, 0, 1, 7);
+        p.message(p.lastMessage(), Run.ACCEPT, 1, 0, 1, 7);
         Play q = new Play().elect(0);
         q.x.propose(0, 1, 1, 1);
         q.settle(0); // COMMIT 2
@@ -473,7 +473,7 @@ public final class RaftPromisesTest {
         q.loseAll();
         q.x.beat(2);
         q.x.deliver(q.lastMessage() - 2);
-        q.message(q.lastMessage(), Play.ACCEPT, 1, 2, 2, 3);
+        q.message(q.lastMessage(), Run.ACCEPT, 1, 2, 2, 3);
         q.node(1, 1, 2, -1, 0, 2, 3, 3, 2);
         partlyPassedOver();
     }
@@ -490,16 +490,16 @@ public final class RaftPromisesTest {
         p.x.propose(0, 1, 3, 3);
         p.x.beat(0);
         int wide = p.lastMessage() - 3; // to NODE 1: PREVIOUS 1, ENTRIES 2 to 4, COMMIT 2
-        p.message(wide, Play.APPEND, 0, 1, 1, 1, 1, 3, 2);
+        p.message(wide, Run.APPEND, 0, 1, 1, 1, 1, 3, 2);
         p.x.shrink(0);
         p.x.beat(0);
         int whole = p.lastMessage() - 3;
-        p.message(whole, Play.SNAPSHOT, 0, 1, 1, 2, 1);
+        p.message(whole, Run.SNAPSHOT, 0, 1, 1, 2, 1);
         Due.is("the SNAPSHOT", 1, p.x.deliver(whole));
         p.node(1, 1, 1, 0, 0, 2, 2, 2, 1);
         p.x.power(1, 2);
         Due.is("ENTRY 2 is passed over, 3 and 4 come", 1, p.x.deliver(wide));
-        p.message(p.lastMessage(), Play.ACCEPT, 1, 0, 1, 4);
+        p.message(p.lastMessage(), Run.ACCEPT, 1, 0, 1, 4);
         p.node(1, 1, 1, 0, 0, 2, 4, 2, 1);
     }
 }

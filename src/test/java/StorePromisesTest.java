@@ -1,6 +1,6 @@
 import java.util.NoSuchElementException;
 
-/** THE STORE and the calls that look at it: promises 4, 5, 11 to 14 and 18. */
+/** THE STORE and the calls that look at it, at all five nodes: promises 4, 5, 11 to 14 and 18. */
 public final class StorePromisesTest {
     private static final Class<IndexOutOfBoundsException> INDEX = IndexOutOfBoundsException.class;
     private static final Class<IllegalStateException> STATE = IllegalStateException.class;
@@ -11,11 +11,11 @@ public final class StorePromisesTest {
         puts();
         removals();
         comparisons();
+        comparisonsOfWhatIsThere();
         leases();
         leasesOfTicks();
         wrappingEnds();
         compaction();
-        forgottenBeyond400();
         more();
         proposeRefuses();
         results();
@@ -86,22 +86,22 @@ public final class StorePromisesTest {
         }
         key(p, 13, 1, 5, 5, 1, 0);
         Due.is("REVISION", 5, p.x.node(0, 8));
-        p.run(1, 13, -3); // REVISION 6: VERSION 2, CAME 5, CHANGED 6, VALUE -3
-        int[] has = {2, 5, 6, -3};
-        for (int b = 0; b < 4; b++) {
-            Due.is("equal", 1, p.run(3, 13, b, 0, has[b], 20, b));
-            Due.is("not equal", 0, p.run(3, 13, b, 0, has[b] + 1, 50, b));
-            Due.is("below", 1, p.run(3, 13, b, 1, has[b] + 1, 20, b));
-            Due.is("not below", 0, p.run(3, 13, b, 1, has[b], 50, b));
-            Due.is("above", 1, p.run(3, 13, b, 2, has[b] - 1, 20, b));
-            Due.is("not above", 0, p.run(3, 13, b, 2, has[b], 50, b));
-        }
-        key(p, 20, 12, 7, 18, 3, 0);
+    }
+
+    private static void comparisonsOfWhatIsThere() {
+        Play p = led();
+        p.run(1, 13, 8);
+        p.run(1, 13, -3); // VERSION 2, CAME 2, CHANGED 3, VALUE -3
+        Due.is("equal", 1, p.run(3, 13, 3, 0, -3, 20, 1));
+        Due.is("below", 1, p.run(3, 13, 1, 1, 3, 20, 2));
+        Due.is("above", 1, p.run(3, 13, 2, 2, 2, 20, 3));
+        Due.is("not equal, and no KEY 50", 0, p.run(3, 13, 0, 0, 1, 50, 9));
+        key(p, 20, 3, 4, 6, 3, 0);
         Due.is("what is not so removes", 0, p.run(3, 13, 3, 0, 0, 20, 9));
         key(p, 20, 0, 0, 0, 0, 0);
-        Due.is("REVISION of the removal", 19, p.x.node(0, 8));
+        Due.is("REVISION of the removal", 7, p.x.node(0, 8));
         Due.is("on itself", 1, p.run(3, 13, 0, 0, 2, 13, 99));
-        key(p, 13, 3, 5, 20, 99, 0);
+        key(p, 13, 3, 2, 8, 99, 0);
         Due.is("VALUES are compared with sign", 1, p.run(3, 13, 3, 2, Integer.MIN_VALUE, 13, 4));
         p.run(4, 1, 100);
         p.run(1, 13, 5, 1, 0, 0, 0);
@@ -202,44 +202,6 @@ public final class StorePromisesTest {
         Due.is("past", 23, p.x.past(0, 2, 5));
         Due.throwing("past of what was removed", ELEMENT, () -> p.x.past(0, 1, 5));
         key(p, 2, 2, 3, 5, 23, 0);
-    }
-
-    /**
-     * 60 puts and their removal, one REVISION for all: 3 times, and 41 puts make 401. These are more than 512 calls;
-     * RandomRunsTest comes to this within them.
-     */
-    private static void forgottenBeyond400() {
-        Play p = led();
-        for (int round = 0; round < 3; round++) {
-            for (int k = 0; k < 60; k++) {
-                p.command(1, k, 1000 * round + k, 0, 0, 0, 0);
-            }
-            p.command(2, 0, 63, 0, 0, 0, 0);
-        }
-        for (int k = 0; k < 40; k++) {
-            p.command(1, k, 5000 + k, 0, 0, 0, 0);
-        }
-        p.settle(0);
-        Due.is("400 EVENTS are kept", 400, p.x.node(1, 13));
-        Due.is("COMPACTED", 0, p.x.node(1, 10));
-        Due.is("one more", 225, p.run(1, 63, 9));
-        Due.is("400 EVENTS again", 400, p.x.node(1, 13));
-        Due.is("COMPACTED is the first one's REVISION", 2, p.x.node(1, 10));
-        Due.is("the first one is known as past", 0, p.x.past(1, 0, 2));
-        Due.is("the first one that is left", (3L << 38) + (1L << 32) + 1, p.x.event(1, 3, 0));
-        Due.throwing("EVENTS up to COMPACTED", ARGUMENT, () -> p.x.event(1, 2, 0));
-        Due.is("compact up to the last put before a removal", 1, p.run(8, 61, 0));
-        Due.is("EVENTS", 341, p.x.node(1, 13));
-        for (int k = 0; k < 59; k++) {
-            p.command(1, k, 0, 0, 0, 0, 0);
-        }
-        p.settle(0);
-        Due.is("400 EVENTS", 400, p.x.node(1, 13));
-        p.run(1, 0, 0);
-        Due.is("all EVENTS of the first REVISION go", 341, p.x.node(1, 13));
-        Due.is("COMPACTED is the removal's REVISION", 62, p.x.node(1, 10));
-        Due.throwing("past of what was removed then", ELEMENT, () -> p.x.past(1, 0, 62));
-        Due.is("all nodes have the same", p.x.digest(0), p.x.digest(4));
     }
 
     private static void more() {
