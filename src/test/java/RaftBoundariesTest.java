@@ -33,7 +33,7 @@ public final class RaftBoundariesTest {
     private static void terms() {
         Due.sentence("One that is delivered to a NODE that is down does nothing", RaftBoundariesTest::toTheDown);
         Due.sentence("if its TERM is above the NODE's, that becomes it", RaftBoundariesTest::termAbove);
-        Due.sentence("VOTED none, ROLE follower", RaftBoundariesTest::termAboveAtLeaderAndCandidate);
+        Due.sentence("VOTED none (a RECORD), ROLE follower", RaftBoundariesTest::termAboveAtLeaderAndCandidate);
         Due.sentence("If its TERM is below then", RaftBoundariesTest::termBelow);
         Due.sentence("If its TERM is below then: not if it is the same", RaftBoundariesTest::termTheSame);
     }

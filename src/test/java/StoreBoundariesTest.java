@@ -52,7 +52,7 @@ public final class StoreBoundariesTest {
         Due.sentence("LEASE a comes .. 1; 0 if it is there", StoreBoundariesTest::leaseComesOnce);
         Due.sentence("END TIME and b (ints, that wrap)", StoreBoundariesTest::endWraps);
         Due.sentence("LEASE a goes, and the KEYS that have it are removed: how many", StoreBoundariesTest::leaseGoes);
-        Due.sentence("LEASE a goes .. with none, and with all KEYS", StoreBoundariesTest::leaseWithNoneAndAll);
+        Due.sentence("LEASE a goes: with none, and with all KEYS", StoreBoundariesTest::leaseWithNoneAndAll);
         Due.sentence("-1 if it is not there", StoreBoundariesTest::leaseThatIsNotThere);
         Due.sentence("LEASE a's END is TIME and b: 1; 0 if it is not there", StoreBoundariesTest::endAnew);
         Due.sentence("LEASE a's END is TIME and b: it wraps", StoreBoundariesTest::endAnewWraps);
@@ -78,6 +78,7 @@ public final class StoreBoundariesTest {
         Due.sentence("COMPACTED becomes the REVISION of the first one", StoreBoundariesTest::firstOfMany);
         Due.sentence("until there are not", StoreBoundariesTest::untilThereAreNot);
         Due.sentence("until there are not: by a tick", StoreBoundariesTest::untilThereAreNotByTick);
+        Due.sentence("until there are not: as many as can be", StoreBoundariesTest::allKeysBeyond400);
     }
 
     private static void atFirst() {
@@ -683,5 +684,26 @@ public final class StoreBoundariesTest {
         r.isRemoved(212, 7, 212, 30);
         r.isRemoved(212, 8, 213, 1);
         r.isRemoved(212, 14, 213, 13);
+    }
+
+    /** 400 EVENTS with all 64 KEYS there, and then these are removed at once. */
+    private static void allKeysBeyond400() {
+        Run r = Run.led();
+        for (int keys : new int[] {64, 64, 40}) {
+            for (int k = 0; k < keys; k++) {
+                r.command(1, k, 5);
+            }
+            r.command(2, 0, 63);
+        }
+        for (int k = 0; k < 64; k++) {
+            r.command(1, k, 6);
+        }
+        r.command(2, 0, 63);
+        r.settle(0, 1, 2);
+        r.isStore(0, 237, 0, 65, 0, 0, 400);
+        r.isRemoved(66, 0, 66, 0);
+        r.isRemoved(66, 399, 237, 63);
+        Due.is("past at COMPACTED", 5, r.sees(x -> x.past(0, 63, 65)));
+        Due.throwing("past at the next", ELEMENT, () -> r.sees(x -> x.past(0, 63, 66)));
     }
 }
